@@ -15,7 +15,7 @@ public final class ArmtowerLine {
     private static final int DUSK = 1080;
     private static final int MOST_MINUTES = 200;
     private static final int MOST_SEED = 9999;
-    private static final int READINGS = 1009;
+    private static final int READING_CYCLE = 1009;
     private static final int MOST_BEFORE_TAKING = 10;
     private static final int MOST_KEPT = 200;
     private static final int MOST_LOGGED = 300;
@@ -37,7 +37,7 @@ public final class ArmtowerLine {
     private int built;
     private boolean begun;
     private int now;
-    private int mistakes;
+    private int readingSeed;
     private final Book[] books;
     private final int[] text;
     private int typed;
@@ -103,7 +103,7 @@ public final class ArmtowerLine {
 
     public int tire(int tower, int tiredness) throws IndexOutOfBoundsException, IllegalArgumentException {
         Tower tired = towerAt(tower);
-        if (isOutside(tiredness, 0, READINGS)) {
+        if (isOutside(tiredness, 0, READING_CYCLE)) {
             throw new IllegalArgumentException("tiredness is out of range");
         }
         int before = tired.tiredness;
@@ -115,8 +115,8 @@ public final class ArmtowerLine {
         if (isOutside(seed, 0, MOST_SEED)) {
             throw new IllegalArgumentException("seed is out of range");
         }
-        int before = mistakes;
-        mistakes = seed;
+        int before = readingSeed;
+        readingSeed = seed;
         return before;
     }
 
@@ -124,14 +124,14 @@ public final class ArmtowerLine {
 
     public int write(int book, int page, int line, int phrase)
             throws IndexOutOfBoundsException, IllegalArgumentException, IllegalStateException {
-        Book open = bookAt(book);
+        Book target = bookAt(book);
         if (isOutside(page, 0, SPOT_SIGNS - 1) || isOutside(line, 0, SPOT_SIGNS - 1)
                 || isOutside(phrase, NONE, MOST_PHRASE)) {
             throw new IllegalArgumentException("page, line or phrase is out of range");
         }
         int spot = spotOf(page, line);
-        int before = open.phraseAt(spot);
-        if (!open.put(spot, phrase)) {
+        int before = target.phraseAt(spot);
+        if (!target.put(spot, phrase)) {
             throw new IllegalStateException("the book has 200 spots");
         }
         return before;
@@ -367,8 +367,8 @@ public final class ArmtowerLine {
     }
 
     private boolean isDay() {
-        int hour = now % MINUTES_OF_A_DAY;
-        return hour >= DAWN && hour < DUSK;
+        int minuteOfDay = now % MINUTES_OF_A_DAY;
+        return minuteOfDay >= DAWN && minuteOfDay < DUSK;
     }
 
     private boolean isSeenAlong(int stretch) {
@@ -434,7 +434,7 @@ public final class ArmtowerLine {
     }
 
     private int signAsRead(int tower, int sign) {
-        int x = (31 * now + 17 * tower + 7 * sign + mistakes) % READINGS;
+        int x = (31 * now + 17 * tower + 7 * sign + readingSeed) % READING_CYCLE;
         if (x >= towerRow[tower].tiredness || sign >= SPOT_SIGNS) {
             return sign;
         }
@@ -481,7 +481,7 @@ public final class ArmtowerLine {
         return NONE;
     }
 
-    /** The minutes until all signs, kept at a tower 0 at first, are at the tower last, which is at least 1. */
+    /** The minutes until all signs, kept at the tower 0 at first, are at the tower last, which is 1 or more. */
     private static int minutesOfTrial(int signs, int last) {
         int[] kept = new int[MOST_TOWERS];
         boolean[] shown = new boolean[MOST_TOWERS];

@@ -212,6 +212,26 @@ public final class LineTest {
       readings(seed, 1);
       readings(seed, 1008);
     }
+    for (int tower = 1; tower < 12; tower++) {
+      readingsAt(tower);
+    }
+  }
+
+  /** Sends 12 phrases up a long line on which one tower alone is tired. */
+  private static void readingsAt(int tower) {
+    ArmtowerLine x = Checks.plain(12);
+    for (int i = 0; i < 12; i++) {
+      x.write(0, i * 3, 60 - i, i);
+      x.type(i);
+    }
+    x.tire(tower, 500);
+    x.send(false, 0, false);
+    x.pass(60);
+    for (int i = 0; i < 24; i++) {
+      int sign = i % 2 == 0 ? i / 2 * 3 : 60 - i / 2;
+      int at = 362 + tower + i;
+      Checks.entry("one tired", x, tower, true, i + 1, at, read(at, tower, sign, 0, 500), 0);
+    }
   }
 
   /** Sends all 12 phrases, and compares what the tower 1 read with what the document's sum asks for. */
