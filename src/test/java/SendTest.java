@@ -352,6 +352,7 @@ public final class SendTest {
     Checks.equal("the last entry at the end", x.log(2, true, 299, 1), 1);
     Checks.equal("the last entry but one", x.log(1, true, 298, 1), 2);
     Checks.equal("no entry behind", x.log(1, true, 300, 1), -1);
+    Checks.equal("two full logs that are alike", x.differs(1, 2, true), -1);
     x.pass(200);
     Checks.equal("a mark behind a full log", x.mark(1, true, true), 1);
     Checks.equal("is not logged", x.logs(1, true), 300);
