@@ -107,6 +107,9 @@ public final class FaceTest {
     Checks.equal("the constructor's parameters", constructors[0].getParameterCount(), 0);
     for (Class<?> inside : ArmtowerLine.class.getDeclaredClasses()) {
       Checks.equal(inside.getName() + " is private", Modifier.isPrivate(inside.getModifiers()), true);
+      for (Method method : inside.getDeclaredMethods()) {
+        Checks.equal(method + " bears a public name", names.contains(method.getName()), false);
+      }
     }
   }
 
